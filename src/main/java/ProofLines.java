@@ -314,7 +314,7 @@ public final class ProofLines {
             return i == 1 && falseBit(code) != 0L ? MINUS : ZERO + numberOf(code) / 10;
         }
 
-        private static int letterOf(int sort) {
+        static int letterOf(int sort) {
             return sort == GIVEN ? 'g' : sort == LEARNED ? 'l' : sort == JOINED ? 'j' : 'a';
         }
     }

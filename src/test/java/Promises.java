@@ -382,6 +382,7 @@ public final class Promises {
         dueShorten(5, "g 1 2|g 1 -2|g -1 3 4|g -1 3 -4|l 1|l 5 3|",
                 "g 1 2|g 1 -2|g -1 3 4|g -1 3 -4|l 1|l 3|");
         shortenOfLineThatTurnsRight();
+        shortenOfFullLines();
     }
 
     /** The last line needs both learned ones; 3 5 is RIGHT only when 6 1 has got shorter. */
@@ -393,6 +394,22 @@ public final class Promises {
         due("shorten", x.shorten(), 13);
         dueText("lines after it", x, givens + "l 1|l 3|l|");
         due("check after it", x.check(), 0);
+    }
+
+    /** As many lines, and as many literals of one line, as there can be. */
+    private static void shortenOfFullLines() {
+        dueShorten(2, "g|".repeat(80), "g|".repeat(80));
+        dueShorten(2, "l|".repeat(80), "l|l|");
+        for (String ahead : new String[] {"", "g|"}) {
+            ProofLines x = of(64, ahead);
+            for (int i = 0; i < 128; i++) {
+                x.collect(i / 2, i % 2 == 0);
+            }
+            int line = x.learn();
+            due("the last one of 128 literals", x.member(line, 127), 126);
+            due("shorten of 128 literals", x.shorten(), line + 1);
+            dueText("what is left of them", x, ahead.isEmpty() ? "l 64 -64|" : "g|l|");
+        }
     }
 
     private static void turn() {
