@@ -373,25 +373,29 @@ public final class Edges {
         x.kind(80, -1);
     }
 
-    /** Each thing leads to the next one, the clauses in the order that takes the most rounds. */
+    /**
+     * The first thing leads to the second and so on, the last but one to both literals of the last:
+     * the clauses in the order in which each look at them all settles just one thing.
+     */
     private static void longestChain() {
         for (boolean started : new boolean[] {true, false}) {
             Counted x = new Counted(64);
-            for (int i = 0; i < 63; i++) {
-                x.given(i);
-                x.literal(i, 62 - i, false, true);
-                x.literal(i, 63 - i, true, true);
+            dueCase(x, 0, 62, 63, false);
+            for (int i = 1; i < 64; i++) {
+                dueCase(x, i, 63 - i, 64 - i, true);
             }
-            x.given(63);
-            x.literal(63, 0, started, true);
-            x.collect(63, true, true);
-            x.learn(64);
-            x.check(started ? 0 : 65);
-            x.given(65);
-            x.literal(65, 63, false, true);
-            x.learn(66);
-            x.check(started ? 0 : 65);
+            x.given(64);
+            x.literal(64, 0, started, true);
+            x.learn(65);
+            x.check(started ? 0 : 66);
         }
+    }
+
+    /** A GIVEN line: the first thing leads to a literal of the other one. */
+    private static void dueCase(Counted x, int line, int first, int other, boolean truth) {
+        x.given(line);
+        x.literal(line, first, false, true);
+        x.literal(line, other, truth, true);
     }
 
     private static void answerOf64Things() {
@@ -437,14 +441,15 @@ public final class Edges {
             x.holds("g|".repeat(80));
         });
         edge("2", "a GIVEN line without literals, also where a line with some was", () -> {
-            Counted x = of(2, "g 1 2|");
+            Counted x = of(2, "a 1 2|g 1|");
+            x.shorten(1);
+            x.given(1);
+            x.holds("g 1|g|");
+            x.read("g 1|g 2|", 2);
+            x.read("g 1 2|g 1|", 2);
             x.read("", 0);
             x.given(0);
             x.holds("g|");
-            x.literal(0, 0, true, true);
-            x.read("l 1|", 1);
-            x.given(1);
-            x.holds("l 1|g|");
         });
         listPromise3();
         listPromises4And5();
@@ -576,6 +581,13 @@ public final class Edges {
             x.kind(0, 1);
             x.member(0, 0, -1);
         });
+        edge("5", "with the literals that were collected: no others, where a line was", () -> {
+            Counted x = of(3, "a 1 2|g 1|");
+            x.shorten(1);
+            x.collect(2, false, true);
+            x.learn(1);
+            x.holds("g 1|l -3|");
+        });
         edge("5", "-1, doing nothing, when there are 80 lines", () -> {
             Counted x = new Counted(3);
             x.fillWithGivens(80);
@@ -654,7 +666,8 @@ public final class Edges {
             y.holds("g 1|g 1 -2 -1|j -2|");
         });
         edge("6", "two cases of which nothing else is left: a line without literals", () -> {
-            Counted x = of(64, "g 64|g -64|");
+            Counted x = of(64, "a 3|g 64|g -64|");
+            x.shorten(2);
             x.split(63, 2);
             x.holds("g 64|g -64|j|");
             x.split(63, -1);
@@ -668,7 +681,12 @@ public final class Edges {
             x.holds("a|".repeat(80));
         });
         edge("7", "an ANSWER line without literals, also where a line with some was", () -> {
-            Counted x = of(2, "a 1 2|");
+            Counted x = of(2, "a 1 2|g 1|");
+            x.shorten(1);
+            x.answer(1);
+            x.holds("g 1|a|");
+            x.read("a 1|g 2|", 2);
+            x.read("a 1 2|g 1|", 2);
             x.read("", 0);
             x.answer(0);
             x.holds("a|");
@@ -904,10 +922,17 @@ public final class Edges {
             y.value(0, 0, false, true);
         });
         edge("11", "exchanged: steps by units are by the new things", () -> {
-            Counted x = of(3, "g 1|l 1|g -3 2|");
-            x.turn(0, 2, 3);
+            Counted x = of(3, "g 1|g -1 2|");
+            x.turn(0, 2, 2);
+            x.collect(2, true, true);
+            x.learn(2);
+            x.collect(1, true, true);
+            x.learn(3);
             x.check(0);
-            x.holds("g 3|l 3|g -1 2|");
+            x.collect(0, true, true);
+            x.learn(4);
+            x.check(5);
+            x.holds("g 3|g -3 2|l 3|l 2|l 1|");
         });
         edge("12", "how many lines: none, one, 80", () -> {
             Counted x = new Counted(1);
@@ -941,10 +966,13 @@ public final class Edges {
         });
         edge("14", "-1 when there is none: no such line", () -> {
             new Counted(1).member(0, 0, -1);
-            Counted x = of(2, "g 1|a -2|");
-            for (int no : new int[] {-1, 2, 3, 79, 80, 81, MIN, MAX}) {
+            Counted x = of(2, "a 1|g 1|a 2|a -2|");
+            x.shorten(2);
+            for (int no : new int[] {-1, 2, 3, 4, 79, 80, 81, MIN, MAX}) {
                 x.member(no, 0, -1);
             }
+            x.member(0, 0, 1);
+            x.member(1, 0, 2);
         });
         edge("14", "-1 when there is none: no such literal", () -> {
             Counted x = of(2, "g 1 2|g -2|l|");
