@@ -27,15 +27,23 @@ public final class Edges {
         listPromise17();
         for (Edge edge : EDGES) {
             now = "promise " + edge.promise + ": " + edge.words;
-            int before = answers;
-            edge.test.run();
-            if (answers == before) {
-                fail("nothing was looked at");
-            }
+            runOne(edge);
         }
         System.out.println(EDGES.size() + " edges, " + answers + " answers, " + wrong + " wrong");
         if (wrong != 0) {
             System.exit(1);
+        }
+    }
+
+    private static void runOne(Edge edge) {
+        int before = answers;
+        try {
+            edge.test.run();
+        } catch (RuntimeException e) {
+            fail("a call threw " + e);
+        }
+        if (answers == before) {
+            fail("nothing was looked at");
         }
     }
 
@@ -894,6 +902,15 @@ public final class Edges {
             x.holds("g 4 3|l -4|j 1 4|a -1 2 4|l|g 2|");
             x.turn(3, 1, 6);
             x.holds("g 2 3|l -2|j 1 2|a -1 4 2|l|g 4|");
+        });
+        edge("11", "in all lines: of 80, and not in lines that went", () -> {
+            of(2, "g 1|".repeat(80)).turn(1, 0, 80);
+            Counted x = of(2, "a 1 2|a 2|g 1|");
+            x.shorten(1);
+            x.turn(0, 1, 1);
+            x.read("a 2 1|", 1);
+            x.read("", 0);
+            x.turn(0, 1, 0);
         });
         edge("11", "and in what is collected", () -> {
             Counted x = new Counted(64);
