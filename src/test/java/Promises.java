@@ -293,7 +293,7 @@ public final class Promises {
         checkOfChain(false, 63, true, false);
     }
 
-    /** Each thing leads to the next one, the clauses in the order that takes the most rounds. */
+    /** Each thing leads to the next one; the clauses stand from the last thing back. */
     private static void checkOfChain(boolean started, int thing, boolean truth, boolean right) {
         ProofLines x = new ProofLines(64);
         for (int i = 62; i >= 0; i--) {
